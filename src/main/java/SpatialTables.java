@@ -508,23 +508,21 @@ public final class SpatialTables {
 
         /** Whether a side and a side of a geometry have a point in common. */
         boolean sideMeets(int side, Geometry other, int otherSide) {
-            int from = turnTo(side, other, otherSide);
-            int to = turnTo(side, other, other.end(otherSide));
-            int otherFrom = other.turnTo(otherSide, this, side);
-            int otherTo = other.turnTo(otherSide, this, end(side));
+            int sideEnd = end(side);
+            int otherEnd = other.end(otherSide);
+            int from = turn(side, other.xs[otherSide], other.ys[otherSide]);
+            int to = turn(side, other.xs[otherEnd], other.ys[otherEnd]);
+            int otherFrom = other.turn(otherSide, xs[side], ys[side]);
+            int otherTo = other.turn(otherSide, xs[sideEnd], ys[sideEnd]);
             return areOpposite(from, to) && areOpposite(otherFrom, otherTo)
                 || from == 0 && isBeside(side, other, otherSide)
-                || to == 0 && isBeside(side, other, other.end(otherSide))
+                || to == 0 && isBeside(side, other, otherEnd)
                 || otherFrom == 0 && other.isBeside(otherSide, this, side)
-                || otherTo == 0 && other.isBeside(otherSide, this, end(side));
+                || otherTo == 0 && other.isBeside(otherSide, this, sideEnd);
         }
 
         private static boolean areOpposite(int a, int b) {
             return a < 0 && b > 0 || a > 0 && b < 0;
-        }
-
-        private int turnTo(int side, Geometry other, int corner) {
-            return turn(side, other.xs[corner], other.ys[corner]);
         }
 
         /** Above 0 if a point is to the left of a side, 0 if it is on the side's straight line. */
@@ -764,7 +762,9 @@ public final class SpatialTables {
         private int newNode() {
             int node = size;
             size++;
-            Arrays.fill(parts, QUARTERS * node, QUARTERS * node + QUARTERS, 0);
+            for (int quarter = 0; quarter < QUARTERS; quarter++) {
+                parts[QUARTERS * node + quarter] = 0;
+            }
             // Turned inside out, so that the first bound it is stretched to becomes its own.
             x0[node] = GREATEST_COORDINATE;
             y0[node] = GREATEST_COORDINATE;
