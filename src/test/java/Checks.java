@@ -1,5 +1,3 @@
-import java.util.function.IntSupplier;
-
 /** Counts the answers that are not due, and ends a test with exit code 1 if there was one. */
 final class Checks {
     private int wrong = 0;
@@ -15,18 +13,6 @@ final class Checks {
 
     void due(String what, boolean want, boolean got) {
         due(what, want ? 1 : 0, got ? 1 : 0);
-    }
-
-    /** A call that must not throw, whatever it answers. */
-    int quiet(String what, IntSupplier call) {
-        made++;
-        try {
-            return call.getAsInt();
-        } catch (RuntimeException thrown) {
-            wrong++;
-            System.out.println(what + ": threw " + thrown);
-            return 0;
-        }
     }
 
     int wrong() {
