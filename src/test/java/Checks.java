@@ -1,5 +1,8 @@
 /** Counts the answers that are not due, and ends a test with exit code 1 if there was one. */
 final class Checks {
+    // A fault that many checks see is told well enough by the first ones.
+    private static final int MOST_TOLD = 40;
+
     private int wrong = 0;
     private int made = 0;
 
@@ -7,12 +10,18 @@ final class Checks {
         made++;
         if (want != got) {
             wrong++;
-            System.out.println(what + ": answered " + got + ", due is " + want);
+            tell(what + ": answered " + got + ", due is " + want);
         }
     }
 
     void due(String what, boolean want, boolean got) {
         due(what, want ? 1 : 0, got ? 1 : 0);
+    }
+
+    private void tell(String fault) {
+        if (wrong <= MOST_TOLD) {
+            System.out.println(fault);
+        }
     }
 
     int wrong() {

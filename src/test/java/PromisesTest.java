@@ -1,9 +1,5 @@
 /** The promises one by one: ordinary inputs, the edges that the document names, and wrong inputs. */
-public final class PromisesTest {
-    private static final int LEAST = Integer.MIN_VALUE;
-    private static final int GREATEST = Integer.MAX_VALUE;
-    private static final Checks checks = new Checks();
-
+public final class PromisesTest extends Scenes {
     public static void main(String[] args) {
         newObject();
         vertices();
@@ -34,43 +30,6 @@ public final class PromisesTest {
         crashes();
         frames();
         checks.end();
-    }
-
-    private static void due(String what, long want, long got) {
-        checks.due(what, want, got);
-    }
-
-    private static void due(String what, boolean want, boolean got) {
-        checks.due(what, want, got);
-    }
-
-    /** Puts vertices x, y, x, y .. into the draft and makes a shape of them. */
-    private static int draw(SpatialTables t, int kind, int... xy) {
-        for (int i = 0; i < xy.length; i += 2) {
-            t.vertex(xy[i], xy[i + 1]);
-        }
-        return t.shape(kind);
-    }
-
-    private static SpatialTables withFocus(int kind, int... xy) {
-        SpatialTables t = new SpatialTables();
-        due("the focus is drawn", 0, draw(t, kind, xy));
-        return t;
-    }
-
-    private static void addPoints(SpatialTables t, int table, int... xy) {
-        for (int i = 0; i < xy.length; i += 2) {
-            draw(t, SpatialTables.POINT, xy[i], xy[i + 1]);
-            t.insert(table, i / 2);
-        }
-    }
-
-    /** Compares all results with the wanted ones, and that there are no more. */
-    private static void dueResults(String what, SpatialTables t, int... want) {
-        for (int i = 0; i < want.length; i++) {
-            due(what + ", result " + i, want[i], t.result(i));
-        }
-        due(what + ", after the last result", -1, t.result(want.length));
     }
 
     private static void newObject() {
@@ -107,7 +66,7 @@ public final class PromisesTest {
         due("2: fifth", 5, t.vertex(7, 7));
         due("2: sixth", 6, t.vertex(8, 8));
         due("2: seventh", -1, t.vertex(9, 9));
-        due("2: six vertices are a line", 0, t.shape(SpatialTables.LINE));
+        due("2: six vertices are a line", 0, t.shape(LINE));
         due("2: the draft is empty then", 1, t.vertex(1, 1));
     }
 
@@ -118,59 +77,57 @@ public final class PromisesTest {
         due("3: no such kind above", -1, t.shape(3));
         due("3: no such kind at all", -1, t.shape(LEAST));
         due("3: refused, the draft stays", 2, t.vertex(1, 1));
-        due("3: two vertices are no point", 1, t.shape(SpatialTables.POINT));
-        due("3: the draft is empty then", 1, t.shape(SpatialTables.POINT));
+        due("3: two vertices are no point", 1, t.shape(POINT));
+        due("3: the draft is empty then", 1, t.shape(POINT));
         due("3: no focus then", -1, t.insert(0, 1));
-        due("3: one vertex is no line", 1, draw(t, SpatialTables.LINE, 1, 1));
-        due("3: none is no line", 1, draw(t, SpatialTables.LINE));
-        due("3: none is no area", 1, draw(t, SpatialTables.AREA));
-        due("3: two equal ones are no area", 1, draw(t, SpatialTables.AREA, 1, 1, 1, 1));
-        due("3: equal at once", 2, draw(t, SpatialTables.LINE, 1, 1, 1, 1));
-        due("3: equal at the end", 2, draw(t, SpatialTables.LINE, 1, 1, 2, 2, 3, 3, 3, 3));
-        due("3: same x alone", 0, draw(t, SpatialTables.LINE, 1, 1, 1, 2));
-        due("3: same y alone", 0, draw(t, SpatialTables.LINE, 1, 1, 2, 1));
-        due("3: a closed line", 0, draw(t, SpatialTables.LINE, 1, 1, 2, 2, 3, 1, 1, 1));
-        due("3: a line over itself", 0, draw(t, SpatialTables.LINE, 1, 1, 5, 1, 3, 1));
-        due("3: a point", 0, draw(t, SpatialTables.POINT, 20, 20));
+        due("3: one vertex is no line", 1, draw(t, LINE, 1, 1));
+        due("3: none is no line", 1, draw(t, LINE));
+        due("3: none is no area", 1, draw(t, AREA));
+        due("3: two equal ones are no area", 1, draw(t, AREA, 1, 1, 1, 1));
+        due("3: equal at once", 2, draw(t, LINE, 1, 1, 1, 1));
+        due("3: equal at the end", 2, draw(t, LINE, 1, 1, 2, 2, 3, 3, 3, 3));
+        due("3: same x alone", 0, draw(t, LINE, 1, 1, 1, 2));
+        due("3: same y alone", 0, draw(t, LINE, 1, 1, 2, 1));
+        due("3: a closed line", 0, draw(t, LINE, 1, 1, 2, 2, 3, 1, 1, 1));
+        due("3: a line over itself", 0, draw(t, LINE, 1, 1, 5, 1, 3, 1));
+        due("3: a point", 0, draw(t, POINT, 20, 20));
         due("3: the focus is the point", 0, t.insert(0, 1));
-        due("3: a bad shape", 2, draw(t, SpatialTables.LINE, 9, 9, 9, 9));
+        due("3: a bad shape", 2, draw(t, LINE, 9, 9, 9, 9));
         due("3: the focus stays", 0, t.measure(0, 0));
-        due("3: another focus", 0, draw(t, SpatialTables.POINT, 23, 24));
+        due("3: another focus", 0, draw(t, POINT, 23, 24));
         due("3: is the focus", 25, t.measure(0, 0));
     }
 
     private static void areasThatAreNone() {
         SpatialTables t = new SpatialTables();
-        int area = SpatialTables.AREA;
-        due("3: last equals first", 2, draw(t, area, 0, 0, 4, 0, 4, 4, 0, 0));
-        due("3: equal and crossing", 2, draw(t, area, 0, 0, 9, 9, 9, 0, 0, 9, 0, 9));
-        due("3: flat triangle", 3, draw(t, area, 0, 0, 4, 0, 2, 0));
-        due("3: flat, long side first", 3, draw(t, area, 0, 0, 1, 1, 9, 9));
-        due("3: bow tie", 3, draw(t, area, 0, 0, 9, 9, 9, 0, 0, 9));
-        due("3: a spike out", 3, draw(t, area, 0, 0, 4, 0, 9, 0, 4, 0, 4, 4));
-        due("3: a spike at the first vertex", 3, draw(t, area, 0, 0, 4, 0, 4, 4, 2, 4, 2, 0));
-        due("3: folds back at the last side", 3, draw(t, area, 4, 0, 8, 0, 8, 8, 0, 8, 0, 4, 0, 6));
-        due("3: a vertex on another side", 3, draw(t, area, 0, 0, 8, 0, 8, 8, 4, 0, 0, 8));
-        due("3: a vertex twice", 3, draw(t, area, 0, 0, 4, 4, 8, 0, 8, 8, 4, 4, 0, 8));
-        due("3: sides over one another", 3, draw(t, area, 0, 0, 8, 0, 8, 4, 6, 0, 2, 0, 0, 4));
-        due("3: back to the middle of the first side", 3, draw(t, area, 0, 0, 8, 0, 8, 8, 4, 8, 4, 0, 2, 6));
+        due("3: last equals first", 2, draw(t, AREA, 0, 0, 4, 0, 4, 4, 0, 0));
+        due("3: equal and crossing", 2, draw(t, AREA, 0, 0, 9, 9, 9, 0, 0, 9, 0, 9));
+        due("3: flat triangle", 3, draw(t, AREA, 0, 0, 4, 0, 2, 0));
+        due("3: flat, long side first", 3, draw(t, AREA, 0, 0, 1, 1, 9, 9));
+        due("3: bow tie", 3, draw(t, AREA, 0, 0, 9, 9, 9, 0, 0, 9));
+        due("3: a spike out", 3, draw(t, AREA, 0, 0, 4, 0, 9, 0, 4, 0, 4, 4));
+        due("3: a spike at the first vertex", 3, draw(t, AREA, 0, 0, 4, 0, 4, 4, 2, 4, 2, 0));
+        due("3: folds back at the last side", 3, draw(t, AREA, 4, 0, 8, 0, 8, 8, 0, 8, 0, 4, 0, 6));
+        due("3: a vertex on another side", 3, draw(t, AREA, 0, 0, 8, 0, 8, 8, 4, 0, 0, 8));
+        due("3: a vertex twice", 3, draw(t, AREA, 0, 0, 4, 4, 8, 0, 8, 8, 4, 4, 0, 8));
+        due("3: sides over one another", 3, draw(t, AREA, 0, 0, 8, 0, 8, 4, 6, 0, 2, 0, 0, 4));
+        due("3: back to the middle of the first side", 3, draw(t, AREA, 0, 0, 8, 0, 8, 8, 4, 8, 4, 0, 2, 6));
         due("3: no focus of all these", -1, t.insert(0, 0));
     }
 
     private static void areasThatAreSome() {
         SpatialTables t = new SpatialTables();
-        int area = SpatialTables.AREA;
-        due("3: a triangle", 0, draw(t, area, 0, 0, 4, 0, 0, 4));
-        due("3: the other way round", 0, draw(t, area, 0, 4, 4, 0, 0, 0));
-        due("3: straight on at a vertex", 0, draw(t, area, 0, 0, 4, 0, 8, 0, 8, 8));
-        due("3: straight on at the first vertex", 0, draw(t, area, 4, 0, 8, 0, 8, 8, 0, 0));
-        due("3: six vertices with a bay", 0, draw(t, area, 0, 0, 8, 0, 8, 8, 6, 8, 6, 2, 0, 2));
-        due("3: thin", 0, draw(t, area, 0, 0, 255, 254, 254, 253));
-        due("3: all of the plane", 0, draw(t, area, 0, 0, 255, 0, 255, 255, 0, 255));
+        due("3: a triangle", 0, draw(t, AREA, 0, 0, 4, 0, 0, 4));
+        due("3: the other way round", 0, draw(t, AREA, 0, 4, 4, 0, 0, 0));
+        due("3: straight on at a vertex", 0, draw(t, AREA, 0, 0, 4, 0, 8, 0, 8, 8));
+        due("3: straight on at the first vertex", 0, draw(t, AREA, 4, 0, 8, 0, 8, 8, 0, 0));
+        due("3: six vertices with a bay", 0, draw(t, AREA, 0, 0, 8, 0, 8, 8, 6, 8, 6, 2, 0, 2));
+        due("3: thin", 0, draw(t, AREA, 0, 0, 255, 254, 254, 253));
+        due("3: all of the plane", 0, draw(t, AREA, 0, 0, 255, 0, 255, 255, 0, 255));
     }
 
     private static void inserts() {
-        SpatialTables t = withFocus(SpatialTables.POINT, 9, 9);
+        SpatialTables t = withFocus(POINT, 9, 9);
         due("4: no table below", -1, t.insert(-1, 1));
         due("4: no table above", -1, t.insert(2, 1));
         due("4: no table at all", -1, t.insert(GREATEST, 1));
@@ -186,12 +143,12 @@ public final class PromisesTest {
         due("4: the next least one", 11, t.insert(1, GREATEST));
         due("4: any int, the least", LEAST, t.value(1, 3));
         due("4: any int, the greatest", GREATEST, t.value(1, 11));
-        draw(t, SpatialTables.POINT, 9, 10);
+        draw(t, POINT, 9, 10);
         due("4: the row keeps the focus of then", 1, t.measure(1, 3));
     }
 
     private static void deletes() {
-        SpatialTables t = withFocus(SpatialTables.POINT, 9, 9);
+        SpatialTables t = withFocus(POINT, 9, 9);
         t.insert(0, 5);
         t.insert(0, 6);
         due("5: no table", false, t.delete(2, 0));
@@ -212,7 +169,7 @@ public final class PromisesTest {
     }
 
     private static void updates() {
-        SpatialTables t = withFocus(SpatialTables.POINT, 9, 9);
+        SpatialTables t = withFocus(POINT, 9, 9);
         t.insert(0, 5);
         due("6: no table", false, t.update(2, 0, 1, false));
         due("6: no table below", false, t.update(-1, 0, 1, true));
@@ -220,7 +177,7 @@ public final class PromisesTest {
         due("6: no such number", false, t.update(0, 16, 1, false));
         due("6: no such number below", false, t.update(0, -1, 1, true));
         due("6: nothing changed", 5, t.value(0, 0));
-        draw(t, SpatialTables.LINE, 9, 19, 10, 29);
+        draw(t, LINE, 9, 19, 10, 29);
         due("6: the value alone", true, t.update(0, 0, -8, false));
         due("6: has the value", -8, t.value(0, 0));
         due("6: has its place still", 100, t.measure(0, 0));
@@ -240,7 +197,7 @@ public final class PromisesTest {
     private static void selects() {
         SpatialTables t = new SpatialTables();
         addPoints(t, 0, 10, 10, 13, 10, 10, 14, 20, 10);
-        draw(t, SpatialTables.POINT, 10, 10);
+        draw(t, POINT, 10, 10);
         due("7: at the place", 1, t.select(0, 0, LEAST, GREATEST));
         dueResults("7: at the place", t, 0);
         due("7: just not 9", 1, t.select(0, 8, LEAST, GREATEST));
@@ -268,17 +225,17 @@ public final class PromisesTest {
     private static void selectReads() {
         SpatialTables t = new SpatialTables();
         addPoints(t, 0, 0, 0, 255, 255, 0, 255, 255, 0);
-        draw(t, SpatialTables.POINT, 0, 0);
+        draw(t, POINT, 0, 0);
         t.select(0, 0, 9, 9);
         due("11: four rows are all read", 4, t.reads());
         addPoints(t, 0, 128, 128);
-        draw(t, SpatialTables.POINT, 0, 0);
+        draw(t, POINT, 0, 0);
         due("7: five rows", 1, t.select(0, 0, LEAST, GREATEST));
         // The square of level 0, the squares of levels 1 to 8 around (0, 0), and the row.
         due("11: five rows are read by their nodes", 10, t.reads());
         t.select(0, 0, 77, 78);
         due("11: values do not count for the reads", 10, t.reads());
-        draw(t, SpatialTables.POINT, 100, 100);
+        draw(t, POINT, 100, 100);
         t.select(0, 1567, LEAST, GREATEST);
         due("11: 28 and 28 off, just not", 1, t.reads());
         t.select(0, 1568, LEAST, GREATEST);
@@ -291,20 +248,20 @@ public final class PromisesTest {
 
     /** A row can be read by its bound and not be found by its geometry. */
     private static void selectExactly() {
-        SpatialTables t = withFocus(SpatialTables.LINE, 0, 0, 100, 100);
+        SpatialTables t = withFocus(LINE, 0, 0, 100, 100);
         for (int i = 0; i < 5; i++) {
             t.insert(0, i);
         }
-        draw(t, SpatialTables.POINT, 100, 0);
+        draw(t, POINT, 100, 0);
         due("7: in the bound, off the line", 0, t.select(0, 4999, LEAST, GREATEST));
         due("11: but read", 7, t.reads());
         due("7: at its distance", 5, t.select(0, 5000, LEAST, GREATEST));
-        draw(t, SpatialTables.LINE, 1, 0, 2, 0);
+        draw(t, LINE, 1, 0, 2, 0);
         due("7: half a square off", 0, t.select(0, 0, LEAST, GREATEST));
         due("7: half is at most 1", 5, t.select(0, 1, LEAST, GREATEST));
-        t = withFocus(SpatialTables.LINE, 0, 0, 2, 1);
+        t = withFocus(LINE, 0, 0, 2, 1);
         t.insert(0, 0);
-        draw(t, SpatialTables.POINT, 1, 2);
+        draw(t, POINT, 1, 2);
         due("7: 9/5 is above 1", 0, t.select(0, 1, 0, 0));
         due("7: 9/5 is below 2", 1, t.select(0, 2, 0, 0));
         due("12: 9/5", 1, t.measure(0, 0));
@@ -313,7 +270,7 @@ public final class PromisesTest {
     private static void nearestInOrder() {
         SpatialTables t = new SpatialTables();
         addPoints(t, 1, 50, 50, 10, 10, 12, 10, 8, 10, 10, 12);
-        draw(t, SpatialTables.POINT, 10, 10);
+        draw(t, POINT, 10, 10);
         due("8: one", 1, t.nearest(1, 1));
         dueResults("8: one", t, 1);
         due("8: equal ones by numbers", 4, t.nearest(1, 4));
@@ -334,17 +291,17 @@ public final class PromisesTest {
 
     /** Distances that differ by fractions alone: 0, 9/5, 2, 25/13 and 9/5 again. */
     private static void nearestFractions() {
-        SpatialTables t = withFocus(SpatialTables.POINT, 101, 102);
+        SpatialTables t = withFocus(POINT, 101, 102);
         t.insert(0, 0);
-        draw(t, SpatialTables.LINE, 100, 100, 102, 101);
+        draw(t, LINE, 100, 100, 102, 101);
         t.insert(0, 1);
-        draw(t, SpatialTables.POINT, 102, 103);
+        draw(t, POINT, 102, 103);
         t.insert(0, 2);
-        draw(t, SpatialTables.LINE, 99, 99, 102, 101);
+        draw(t, LINE, 99, 99, 102, 101);
         t.insert(0, 3);
-        draw(t, SpatialTables.LINE, 102, 104, 100, 103);
+        draw(t, LINE, 102, 104, 100, 103);
         t.insert(0, 4);
-        draw(t, SpatialTables.POINT, 101, 102);
+        draw(t, POINT, 101, 102);
         due("12: 9/5", 1, t.measure(0, 1));
         due("12: 2", 2, t.measure(0, 2));
         due("12: 25/13", 1, t.measure(0, 3));
@@ -361,14 +318,14 @@ public final class PromisesTest {
     private static void nearestReads() {
         SpatialTables t = new SpatialTables();
         addPoints(t, 0, 1, 1, 200, 1);
-        draw(t, SpatialTables.POINT, 1, 1);
+        draw(t, POINT, 1, 1);
         due("8: as many as k", 2, t.nearest(0, 2));
         due("11: D reaches all", 17 + 2, t.reads());
         due("8: the nearest alone", 1, t.nearest(0, 1));
         due("11: few rows are read by nodes too", 9 + 1, t.reads());
-        draw(t, SpatialTables.LINE, 200, 0, 255, 50);
+        draw(t, LINE, 200, 0, 255, 50);
         t.insert(0, 2);
-        draw(t, SpatialTables.POINT, 1, 1);
+        draw(t, POINT, 1, 1);
         due("8: less than k", 3, t.nearest(0, 4));
         due("11: all nodes and rows", t.nodes(0) + 3, t.reads());
         // The bound of row 2 is 199 off in x and none in y, as near as row 1; row 2 itself is farther off.
@@ -440,9 +397,9 @@ public final class PromisesTest {
     }
 
     private static void measures() {
-        SpatialTables t = withFocus(SpatialTables.POINT, 0, 0);
+        SpatialTables t = withFocus(POINT, 0, 0);
         t.insert(0, 1);
-        draw(t, SpatialTables.LINE, 0, 5, 5, 0);
+        draw(t, LINE, 0, 5, 5, 0);
         t.insert(1, 1);
         due("12: 25/2", 12, t.measure(0, 0));
         due("12: no table", -1, t.measure(2, 0));
@@ -450,24 +407,24 @@ public final class PromisesTest {
         due("12: no row", -1, t.measure(0, 1));
         due("12: no such number", -1, t.measure(0, 16));
         due("12: no such number below", -1, t.measure(0, -1));
-        draw(t, SpatialTables.POINT, 255, 255);
+        draw(t, POINT, 255, 255);
         due("12: the farthest", 130050, t.measure(0, 0));
-        draw(t, SpatialTables.LINE, 0, 0, 5, 5);
+        draw(t, LINE, 0, 0, 5, 5);
         due("12: crossing", 0, t.measure(1, 0));
-        draw(t, SpatialTables.LINE, 0, 0, 2, 2);
+        draw(t, LINE, 0, 0, 2, 2);
         due("12: not quite crossing", 0, t.measure(1, 0));
         due("7: which is not meeting", 0, t.select(1, 0, 1, 1));
-        draw(t, SpatialTables.LINE, 6, 0, 9, 0);
+        draw(t, LINE, 6, 0, 9, 0);
         due("12: beside its end", 1, t.measure(1, 0));
-        draw(t, SpatialTables.LINE, 9, 9, 2, 3, 9, 8);
+        draw(t, LINE, 9, 9, 2, 3, 9, 8);
         due("12: touching at a vertex", 0, t.measure(1, 0));
         due("7: which is meeting", 1, t.select(1, 0, 1, 1));
-        draw(t, SpatialTables.LINE, 1, 4, 3, 2);
+        draw(t, LINE, 1, 4, 3, 2);
         due("7: on the line", 1, t.select(1, 0, 1, 1));
-        draw(t, SpatialTables.LINE, 7, 0, 8, 0, 0, 7);
+        draw(t, LINE, 7, 0, 8, 0, 0, 7);
         // 256/113, from (0, 5) to the second side; the nearest vertex is 4 off.
         due("12: the nearest side counts", 2, t.measure(1, 0));
-        draw(t, SpatialTables.LINE, 100, 0, 101, 0, 0, 102);
+        draw(t, LINE, 100, 0, 101, 0, 0, 102);
         // From (5, 0) to 102 x + 101 y = 10302: 9792 * 9792 / 20605.
         due("12: a fraction far off", 4653, t.measure(1, 0));
         t.commit(-1);
@@ -476,38 +433,38 @@ public final class PromisesTest {
     }
 
     private static void measuresOfAreas() {
-        SpatialTables t = withFocus(SpatialTables.AREA, 10, 10, 60, 10, 60, 60, 50, 60, 50, 20, 10, 20);
+        SpatialTables t = withFocus(AREA, 10, 10, 60, 10, 60, 60, 50, 60, 50, 20, 10, 20);
         t.insert(0, 1);
-        draw(t, SpatialTables.POINT, 20, 15);
+        draw(t, POINT, 20, 15);
         due("12: within", 0, t.measure(0, 0));
-        draw(t, SpatialTables.POINT, 55, 55);
+        draw(t, POINT, 55, 55);
         due("12: within the other arm", 0, t.measure(0, 0));
-        draw(t, SpatialTables.POINT, 60, 60);
+        draw(t, POINT, 60, 60);
         due("12: on a vertex", 0, t.measure(0, 0));
-        draw(t, SpatialTables.POINT, 30, 20);
+        draw(t, POINT, 30, 20);
         due("12: on a side", 0, t.measure(0, 0));
-        draw(t, SpatialTables.POINT, 45, 30);
+        draw(t, POINT, 45, 30);
         due("12: in the bay", 25, t.measure(0, 0));
-        draw(t, SpatialTables.LINE, 52, 50, 58, 55);
+        draw(t, LINE, 52, 50, 58, 55);
         due("12: a line within", 0, t.measure(0, 0));
-        draw(t, SpatialTables.LINE, 0, 15, 200, 15);
+        draw(t, LINE, 0, 15, 200, 15);
         due("12: a line through", 0, t.measure(0, 0));
-        draw(t, SpatialTables.AREA, 20, 12, 22, 12, 21, 14);
+        draw(t, AREA, 20, 12, 22, 12, 21, 14);
         due("12: an area within", 0, t.measure(0, 0));
-        draw(t, SpatialTables.AREA, 0, 0, 200, 0, 200, 200, 0, 200);
+        draw(t, AREA, 0, 0, 200, 0, 200, 200, 0, 200);
         due("12: an area around", 0, t.measure(0, 0));
-        draw(t, SpatialTables.AREA, 20, 30, 40, 30, 40, 50, 20, 50);
+        draw(t, AREA, 20, 30, 40, 30, 40, 50, 20, 50);
         due("12: an area in the bay", 100, t.measure(0, 0));
-        draw(t, SpatialTables.AREA, 60, 61, 70, 61, 70, 70);
+        draw(t, AREA, 60, 61, 70, 61, 70, 70);
         due("12: an area beside it", 1, t.measure(0, 0));
-        draw(t, SpatialTables.LINE, 10, 30, 40, 30, 40, 60, 10, 60, 10, 30);
+        draw(t, LINE, 10, 30, 40, 30, 40, 60, 10, 60, 10, 30);
         t.insert(0, 2);
-        draw(t, SpatialTables.POINT, 25, 45);
+        draw(t, POINT, 25, 45);
         due("12: a closed line is no area", 225, t.measure(0, 1));
     }
 
     private static void valuesAndRows() {
-        SpatialTables t = withFocus(SpatialTables.POINT, 3, 3);
+        SpatialTables t = withFocus(POINT, 3, 3);
         t.insert(0, 40);
         t.insert(0, 41);
         t.insert(1, -42);
@@ -538,13 +495,13 @@ public final class PromisesTest {
     }
 
     private static void nodeCounts() {
-        due("15: a point is at home in level 8", 9, nodesOf(SpatialTables.POINT, 255, 255));
-        due("15: 0 and 1", 8, nodesOf(SpatialTables.LINE, 0, 0, 1, 1));
-        due("15: 1 and 2", 7, nodesOf(SpatialTables.LINE, 1, 0, 2, 0));
-        due("15: 3 and 4 in y", 6, nodesOf(SpatialTables.LINE, 0, 3, 0, 4));
-        due("15: 127 and 128", 1, nodesOf(SpatialTables.LINE, 127, 5, 128, 5));
-        due("15: 63 and 64", 2, nodesOf(SpatialTables.LINE, 5, 63, 5, 64));
-        due("15: 128 to 255", 2, nodesOf(SpatialTables.LINE, 128, 128, 255, 255));
+        due("15: a point is at home in level 8", 9, nodesOf(POINT, 255, 255));
+        due("15: 0 and 1", 8, nodesOf(LINE, 0, 0, 1, 1));
+        due("15: 1 and 2", 7, nodesOf(LINE, 1, 0, 2, 0));
+        due("15: 3 and 4 in y", 6, nodesOf(LINE, 0, 3, 0, 4));
+        due("15: 127 and 128", 1, nodesOf(LINE, 127, 5, 128, 5));
+        due("15: 63 and 64", 2, nodesOf(LINE, 5, 63, 5, 64));
+        due("15: 128 to 255", 2, nodesOf(LINE, 128, 128, 255, 255));
         SpatialTables t = new SpatialTables();
         due("15: no table", -1, t.nodes(2));
         due("15: no table below", -1, t.nodes(-1));
@@ -569,7 +526,7 @@ public final class PromisesTest {
     }
 
     private static void commits() {
-        SpatialTables t = withFocus(SpatialTables.POINT, 9, 9);
+        SpatialTables t = withFocus(POINT, 9, 9);
         for (int i = 0; i < 5; i++) {
             t.insert(0, i);
         }
@@ -600,7 +557,7 @@ public final class PromisesTest {
     }
 
     private static void commitsThatChangeNothing() {
-        SpatialTables t = withFocus(SpatialTables.POINT, 9, 9);
+        SpatialTables t = withFocus(POINT, 9, 9);
         due("16: nothing changed", 0, t.commit(0));
         due("16: and no crash", 0, t.insert(0, 1));
         due("16: changed", 3, t.commit(-1));
@@ -616,22 +573,22 @@ public final class PromisesTest {
     }
 
     private static void changedPages() {
-        SpatialTables t = withFocus(SpatialTables.LINE, 1, 1, 2, 2);
+        SpatialTables t = withFocus(LINE, 1, 1, 2, 2);
         t.insert(0, 1);
         t.commit(-1);
-        draw(t, SpatialTables.LINE, 2, 2, 1, 1);
+        draw(t, LINE, 2, 2, 1, 1);
         t.update(0, 0, 1, true);
         due("16: another order of vertices", 3, t.commit(-1));
-        draw(t, SpatialTables.LINE, 2, 2, 1, 1, 2, 2);
+        draw(t, LINE, 2, 2, 1, 1, 2, 2);
         t.update(0, 0, 1, true);
         due("16: one vertex more", 3, t.commit(-1));
-        draw(t, SpatialTables.LINE, 2, 2, 1, 1, 2, 3);
+        draw(t, LINE, 2, 2, 1, 1, 2, 3);
         t.update(0, 0, 1, true);
         due("16: another y", 3, t.commit(-1));
-        draw(t, SpatialTables.AREA, 2, 2, 1, 1, 2, 3);
+        draw(t, AREA, 2, 2, 1, 1, 2, 3);
         t.update(0, 0, 1, true);
         due("16: another kind", 3, t.commit(-1));
-        draw(t, SpatialTables.AREA, 2, 2, 1, 1, 2, 3);
+        draw(t, AREA, 2, 2, 1, 1, 2, 3);
         t.update(0, 0, 1, true);
         due("16: drawn again, the same", 0, t.commit(-1));
         t.update(0, 0, 2, false);
@@ -643,7 +600,7 @@ public final class PromisesTest {
 
     private static void commitsThatAreCut() {
         for (int most = 0; most <= 5; most++) {
-            SpatialTables t = withFocus(SpatialTables.POINT, 9, 9);
+            SpatialTables t = withFocus(POINT, 9, 9);
             t.insert(0, 7);
             due("16: first commit", 3, t.commit(-1));
             t.update(0, 0, 8, false);
@@ -664,8 +621,8 @@ public final class PromisesTest {
             due(what + ", reads", crashed ? 0 : 1, t.reads());
             due(what + ", result", crashed ? -1 : 0, t.result(0));
             due(what + ", focus", crashed ? -1 : 1, t.insert(0, 1));
-            draw(t, SpatialTables.POINT, 5, 5);
-            draw(t, SpatialTables.POINT, 5, 5);
+            draw(t, POINT, 5, 5);
+            draw(t, POINT, 5, 5);
             t.rollback();
             t.insert(0, 3);
             due(what + ", the next one", 3, t.commit(-1));
@@ -675,7 +632,7 @@ public final class PromisesTest {
     }
 
     private static void commitsWithoutRoom() {
-        SpatialTables t = withFocus(SpatialTables.POINT, 9, 9);
+        SpatialTables t = withFocus(POINT, 9, 9);
         for (int i = 0; i < 32; i++) {
             t.insert(i % 2, 1);
         }
@@ -708,11 +665,11 @@ public final class PromisesTest {
     }
 
     private static void rollbacks() {
-        SpatialTables t = withFocus(SpatialTables.POINT, 9, 9);
+        SpatialTables t = withFocus(POINT, 9, 9);
         t.insert(0, 7);
         t.insert(1, 8);
         t.commit(-1);
-        draw(t, SpatialTables.POINT, 9, 12);
+        draw(t, POINT, 9, 12);
         t.update(0, 0, 70, true);
         t.insert(0, 71);
         t.delete(1, 0);
@@ -736,7 +693,7 @@ public final class PromisesTest {
     }
 
     private static void crashes() {
-        SpatialTables t = withFocus(SpatialTables.POINT, 9, 9);
+        SpatialTables t = withFocus(POINT, 9, 9);
         t.insert(0, 7);
         t.commit(-1);
         t.update(0, 0, 70, false);
@@ -755,14 +712,14 @@ public final class PromisesTest {
         due("18: directory stays", 2, t.frame(8));
         t.crash();
         due("18: twice", 1, t.rows(0));
-        SpatialTables fresh = withFocus(SpatialTables.POINT, 9, 9);
+        SpatialTables fresh = withFocus(POINT, 9, 9);
         fresh.insert(0, 7);
         fresh.crash();
         due("18: before any commit", 0, fresh.rows(0));
     }
 
     private static void frames() {
-        SpatialTables t = withFocus(SpatialTables.POINT, 9, 9);
+        SpatialTables t = withFocus(POINT, 9, 9);
         for (int p = 0; p < 8; p++) {
             due("19: no page at first", -1, t.frame(p));
         }
