@@ -753,7 +753,8 @@ public final class SpatialTables {
 
         private int partOf(int node, int quarter) {
             int at = QUARTERS * node + quarter;
-            if (parts[at] == 0) {
+            // The rows of a table never fill the room; the look keeps every index within it all the same.
+            if (parts[at] == 0 && size < MOST_NODES) {
                 parts[at] = newNode();
             }
             return parts[at];
